@@ -450,6 +450,12 @@ public final class PromisesTest {
         // The goals 1 and 2 have the one entrance 3, with a box on it; boxes do not matter.
         PusherRoom v = room("#..$@/####-/#####");
         due("10: a box on the entrance", 3, () -> v.goalRoom(0, -1));
+        PusherRoom t = room("########/#...-@-#/#####-##/#####$##/#####-##/#####.##/########");
+        due("10: a long room", "12 9 10 11",
+                () -> t.goalRoom(0, -1) + " " + t.goalRoom(0, 0) + " " + t.goalRoom(0, 1) + " " + t.goalRoom(0, 2));
+        due("10: a short room after it", "37 45", () -> t.goalRoom(1, -1) + " " + t.goalRoom(1, 0));
+        PusherRoom s = room(".-$@--/######/######");
+        due("10: cell 0 alone", "1 1 0", () -> s.count(9) + " " + s.goalRoom(0, -1) + " " + s.goalRoom(0, 0));
         // One open cell beside two goals of the set counts once.
         PusherRoom u = room("@$-./##../####");
         due("10: one cell beside two goals", "2 7 3 6",
@@ -849,13 +855,15 @@ public final class PromisesTest {
     // ---- promise 23
 
     private static void undo() {
-        PusherRoom x = room(CORRIDOR);
+        PusherRoom x = room("------/-@$---/------/------/-.----");
         due("23: nothing yet", STATE, x::undo);
+        int[] directions = {1, 1, 0, 1, 2, 2, 3, 2, 1, 0};
         String[] pictures = new String[10];
         for (int i = 0; i < 10; i++) {
             pictures[i] = picture(x);
-            x.step(i % 2 == 0 ? 1 : 3);
+            x.step(directions[i]);
         }
+        due("23: ten commands", "RRurDDldRu", () -> record(x));
         due("23: 8 of 10 commands", 8, () -> x.count(7));
         for (int i = 9; i >= 2; i--) {
             int left = i - 2;
@@ -865,17 +873,17 @@ public final class PromisesTest {
             due("23: the record before command " + i, left + 2, () -> x.count(5));
         }
         due("23: none is left", STATE, x::undo);
-        due("23: the record of the first two", "rl", () -> record(x));
-        x.step(1);
-        x.step(1);
-        due("23: two again", 2, () -> x.count(7));
-        due("23: one push", 1, () -> x.count(6));
-        due("23: a push is undone", 1, x::undo);
-        due("23: the box is back", "#######/#-@$-.#/#######", () -> picture(x));
-        due("23: no push", 0, () -> x.count(6));
-        due("23: a refused one is no command", REFUSED, () -> x.step(0));
-        due("23: one is left still", 1, () -> x.count(7));
-        due("23: the input is not undone", "1 0 1", () -> x.feed('x') + " " + x.undo() + " " + x.count(11));
+        due("23: the record of the first two", "RR", () -> record(x));
+        due("23: their pushes", 2, () -> x.count(6));
+        PusherRoom y = room(CORRIDOR);
+        y.step(1);
+        y.step(1);
+        due("23: a push is undone", 1, y::undo);
+        due("23: the box is back", "#######/#-@$-.#/#######", () -> picture(y));
+        due("23: no push", 0, () -> y.count(6));
+        due("23: a refused one is no command", REFUSED, () -> y.step(0));
+        due("23: one is left still", 1, () -> y.count(7));
+        due("23: the input is not undone", "1 0 1", () -> y.feed('x') + " " + y.undo() + " " + y.count(11));
     }
 
     // ---- promises 24 and 25
