@@ -1,21 +1,7 @@
 import java.util.concurrent.Callable;
 
 /** Each promise of the document by hand: ordinary inputs, the edges that it names, and wrong inputs. */
-public final class PromisesTest {
-    private static final String ARGUMENT = "IllegalArgumentException";
-    private static final String STATE = "IllegalStateException";
-    private static final String INDEX = "IndexOutOfBoundsException";
-    private static final String ARITHMETIC = "ArithmeticException";
-    private static final String ELEMENT = "NoSuchElementException";
-    private static final String REFUSED = "UnsupportedOperationException";
-
-    /** Player 8, box 10, goal 12, all in one row: cells 8 to 12 are open. */
-    private static final String CORRIDOR = "#######/#@-$-.#/#######";
-    /** Cells 6 to 8, 11 to 13, 16 to 18 are open: player 6, box 12, goal 13. */
-    private static final String SQUARE = "#####/#@--#/#-$.#/#---#/#####";
-    /** A row to walk to and fro, and below it a box (18) in a tunnel that ends at a goal (22). */
-    private static final String LONG_WALK = "@-------/-#######/--$---.#";
-
+public final class PromisesTest extends RoomTests {
     private static final Check CHECK = new Check();
 
     public static void main(String[] args) {
@@ -55,57 +41,6 @@ public final class PromisesTest {
 
     private static void due(String what, Object want, Callable<?> call) {
         CHECK.due(what, want, call);
-    }
-
-    private static void type(PusherRoom x, String text) {
-        for (char c : text.toCharArray()) {
-            x.feed(c);
-        }
-    }
-
-    private static String read(PusherRoom x, String text) {
-        type(x, text);
-        return Check.answerOf(x::readRoom);
-    }
-
-    private static String play(PusherRoom x, String text) {
-        type(x, text);
-        return Check.answerOf(x::play);
-    }
-
-    private static PusherRoom room(String text) {
-        PusherRoom x = new PusherRoom();
-        String answer = read(x, text);
-        due("room " + text + " is read", true, () -> answer.matches("[0-9]+"));
-        return x;
-    }
-
-    /** The room as its text. */
-    private static String picture(PusherRoom x) {
-        StringBuilder text = new StringBuilder();
-        for (int r = 0; r < x.count(0); r++) {
-            text.append(r > 0 ? "/" : "");
-            for (int c = 0; c < x.count(1); c++) {
-                text.append(x.cell(r, c));
-            }
-        }
-        return text.toString();
-    }
-
-    private static String record(PusherRoom x) {
-        StringBuilder text = new StringBuilder();
-        for (int i = 0; i < x.count(5); i++) {
-            text.append(x.recorded(i));
-        }
-        return text.toString();
-    }
-
-    private static long set(int... cells) {
-        long set = 0;
-        for (int c : cells) {
-            set |= 1L << c;
-        }
-        return set;
     }
 
     // ---- promise 1
